@@ -11,7 +11,7 @@ import java.util.TreeSet;
  */
 public final class FuzzTest {
     private static final int RUNS = 1500;
-    private static final int CALLS = 160;
+    private static final int CALLS = 90;
 
     private static int wrong = 0;
     private static long seed = 20261119L;
@@ -606,22 +606,120 @@ public final class FuzzTest {
         }
     }
 
-    private static void run(int number) {
-        TraceAligner aligner = new TraceAligner();
-        Plain plain = new Plain();
-        List<String> calls = new ArrayList<>();
-        for (int call = 0; call < CALLS; call++) {
-            String name = drawName(call);
-            int[] arguments = drawArguments(plain, name);
+    /** Two objects to compare, and the calls that both have had. */
+    private static final class Run {
+        final TraceAligner aligner = new TraceAligner();
+        final Plain plain = new Plain();
+        final List<String> calls = new ArrayList<>();
+        boolean isWrong;
+
+        void call(String name, int... arguments) {
+            if (isWrong) {
+                return;
+            }
             String due = due(plain, name, arguments);
             String answer = answer(aligner, name, arguments);
             calls.add(name + Arrays.toString(arguments) + " -> " + answer);
             if (!due.equals(answer)) {
+                isWrong = true;
                 wrong++;
-                System.out.println("run " + number + ": due is " + due + " at the end of " + calls);
-                return;
+                System.out.println("due is " + due + " at the end of " + calls);
             }
         }
+    }
+
+    /** A net whose tokens move on, so that it often has many markings. */
+    private static void buildNet(Run run) {
+        int places = 1 + draw(8);
+        int transitions = 1 + draw(10);
+        int labels = 1 + draw(6);
+        for (int p = 0; p < places; p++) {
+            run.call("addPlace");
+            if (p == 0 || chance(30)) {
+                run.call("setTokens", p, 1 + draw(3), 0);
+            }
+        }
+        for (int t = 0; t < transitions; t++) {
+            run.call("addTransition", draw(labels + 1) - 1);
+            run.call("link", t, t < places ? t : draw(places), 1, 1);
+            if (chance(20)) {
+                run.call("link", t, draw(places), 1, 1);
+            }
+            if (chance(90)) {
+                run.call("link", t, draw(places), 0, 1);
+            }
+            if (chance(20)) {
+                run.call("link", t, draw(places), 0, 1);
+            }
+            if (chance(30)) {
+                run.call("setCost", t, chance(40) ? 0 : draw(10));
+            }
+        }
+    }
+
+    private static void chooseLast(Run run) {
+        run.call("markings");
+        int size = run.plain.markings.size();
+        if (size > 200) {
+            return;
+        }
+        String last = run.plain.markings.get(chance(30) ? size - 1 : draw(size));
+        for (int p = 0; p < last.length(); p++) {
+            run.call("setTokens", p, last.charAt(p) - '0', 1);
+        }
+    }
+
+    private static void storeTraces(Run run) {
+        int labels = 1 + draw(6);
+        for (int i = draw(6); i >= 0; i--) {
+            for (int n = draw(9); n > 0; n--) {
+                run.call("event", draw(labels));
+            }
+            run.call("store", chance(25) ? 0 : 1 + draw(9));
+        }
+        if (chance(40)) {
+            run.call("setLabelCost", draw(6), chance(40) ? 0 : draw(10));
+        }
+    }
+
+    private static void askAll(Run run) {
+        for (int i = 0; i < run.plain.traces.size(); i++) {
+            run.call("cost", i);
+            run.call("moves", i);
+            run.call("worst", i);
+            run.call("fitness", i);
+            // A call beyond the 512th is free, so most moves of a long alignment are passed over.
+            for (int m = draw(3); m < 40 && run.calls.size() < 350; m += 1 + draw(6)) {
+                for (int what = 0; what < 4; what++) {
+                    run.call("move", i, m, what);
+                }
+            }
+        }
+        for (int k = 0; k < 3; k++) {
+            run.call("total", k, draw(6));
+        }
+        run.call("allFitness");
+        run.call("precision");
+        run.call("digest");
+        run.call("dead");
+        run.call("live");
+        run.call("away", draw(3));
+    }
+
+    private static Run run(int number) {
+        Run run = new Run();
+        boolean isBuilt = number % 3 != 0;
+        if (isBuilt) {
+            buildNet(run);
+            chooseLast(run);
+            storeTraces(run);
+            askAll(run);
+        }
+        for (int call = 0; call < CALLS && run.calls.size() < 512; call++) {
+            String name = drawName(isBuilt ? 40 + call : call);
+            run.call(name, drawArguments(run.plain, name));
+        }
+        return run;
     }
 
     public static void main(String[] args) {
