@@ -618,7 +618,7 @@ public final class TraceAligner {
             boolean isBetter = false;
             for (int marking = size - 1; marking >= 0; marking--) {
                 for (int transition = 0; transition < net.transitionCount; transition++) {
-                    int behind = follower(marking, transition);
+                    int behind = followers[marking * MAX_TRANSITIONS + transition];
                     if (behind != NONE && row[behind] + weights[transition] < row[marking]) {
                         row[marking] = row[behind] + weights[transition];
                         isBetter = true;

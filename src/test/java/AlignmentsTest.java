@@ -342,6 +342,7 @@ public final class AlignmentsTest {
         due("other transition cost: cost(1)", 4, () -> x.cost(1));
         due("dropTrace", 1, () -> x.dropTrace());
         trace(x, 3, 3);
+        due("another trace in its place, costs as before: cost(1)", 7, () -> x.cost(1));
         x.setLabelCost(3, 2);
         due("another trace in its place: cost(1)", 9, () -> x.cost(1));
         x.setLabelCost(3, 0);

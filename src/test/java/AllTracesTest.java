@@ -197,6 +197,44 @@ public final class AllTracesTest {
         due("another one does not: precision", 0.5, () -> x.precision());
     }
 
+    private static void testDroppedTracesDoNotCount() {
+        TraceAligner x = fork();
+        trace(x, 5, 0, 1, 2, 3);
+        trace(x, 2, 0, 2, 1, 3, 5);
+        due("both: total", 2, () -> x.total(1, 5));
+        due("both: allFitness", 1.0 - 2.0 / 58.0, () -> x.allFitness());
+        due("both: precision", 1.0, () -> x.precision());
+        x.dropTrace();
+        due("one dropped: total", 0, () -> x.total(1, 5));
+        due("one dropped: allFitness", 1.0, () -> x.allFitness());
+        due("one dropped: precision", 0.8, () -> x.precision());
+    }
+
+    private static void testEightTraces() {
+        TraceAligner x = fork();
+        for (int i = 0; i < 8; i++) {
+            trace(x, i == 7 ? 99 : 1, 0, 5, 5, 1, 5, 5, 2, 3);
+        }
+        due("8 traces: total", 4 * 106, () -> x.total(1, 5));
+        due("8 traces: allFitness", 1.0 - 424.0 / 1272.0, () -> x.allFitness());
+        due("8 traces: precision", 0.8, () -> x.precision());
+    }
+
+    private static void testShorterAlignmentsLeaveNothingBehind() {
+        TraceAligner x = fork();
+        trace(x, 3);
+        due("4 moves: total", 3, () -> x.total(2, 3));
+        x.addTransition(-1);
+        x.link(4, 0, true, true);
+        x.link(4, 5, false, true);
+        for (int t = 0; t < 4; t++) {
+            int which = t;
+            due("1 move: total(2, " + t + ")", 0, () -> x.total(2, which));
+        }
+        due("1 move: total(2, 4)", 3, () -> x.total(2, 4));
+        due("1 move: precision", 0.5, () -> x.precision());
+    }
+
     private static void testTooMany() {
         TraceAligner x = new TraceAligner();
         due("total without transitions", INDEX, () -> x.total(0, 0));
@@ -224,6 +262,9 @@ public final class AllTracesTest {
         testPrecision();
         testPrecisionCountsTimes();
         testPrecisionAtTheEnd();
+        testDroppedTracesDoNotCount();
+        testEightTraces();
+        testShorterAlignmentsLeaveNothingBehind();
         testTooMany();
         System.out.println("AllTracesTest: " + wrong + " answers are not as due");
         if (wrong != 0) System.exit(1);

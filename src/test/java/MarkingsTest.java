@@ -160,6 +160,8 @@ public final class MarkingsTest {
         due("one of two inputs: markings", 1, () -> x.markings());
         due("one of two inputs: enabled", 0, () -> x.enabled(0));
         due("one of two inputs: live", 0, () -> x.live());
+        due("one of two inputs: last", -1, () -> x.last());
+        due("one of two inputs: dead", 1, () -> x.dead());
         x.setTokens(1, 2, false);
         due("both inputs: markings", 2, () -> x.markings());
         due("both inputs: tokens(1, 0)", 0, () -> x.tokens(1, 0));
@@ -243,6 +245,25 @@ public final class MarkingsTest {
         due("link on: markings", 12, () -> x.markings());
         x.link(1, 2, false, false);
         due("link off: markings", 3, () -> x.markings());
+        due("link off: enabled", 3, () -> x.enabled(0));
+        x.link(1, 2, true, true);
+        due("input on: enabled", 1, () -> x.enabled(0));
+        due("input on: next", -1, () -> x.next(0, 1));
+        due("input on: live", 1, () -> x.live());
+    }
+
+    private static void testAtAllLimits() {
+        TraceAligner x = net(new int[] {3, 0, 0, 0, 0, 0, 0, 0},
+                new int[] {1, 2, 4, 8, 16, 32, 64, 1, 128, 0}, new int[] {2, 4, 8, 16, 32, 64, 128, 2, 128, 0});
+        x.setTokens(7, 3, true);
+        due("8 places, 10 transitions: markings", 120, () -> x.markings());
+        due("8 places, 10 transitions: last", 119, () -> x.last());
+        due("8 places, 10 transitions: live", 1023, () -> x.live());
+        due("8 places, 10 transitions: enabled(0)", 1 + 128 + 512, () -> x.enabled(0));
+        due("8 places, 10 transitions: enabled(119)", 256 + 512, () -> x.enabled(119));
+        due("8 places, 10 transitions: next(119, 9)", 119, () -> x.next(119, 9));
+        due("8 places, 10 transitions: tokens(119, 7)", 3, () -> x.tokens(119, 7));
+        due("8 places, 10 transitions: away(0)", 21, () -> x.away(0));
     }
 
     public static void main(String[] args) {
@@ -259,6 +280,7 @@ public final class MarkingsTest {
         testLimitOfMarkings();
         testTooMany();
         testChangesAreSeen();
+        testAtAllLimits();
         System.out.println("MarkingsTest: " + wrong + " answers are not as due");
         if (wrong != 0) System.exit(1);
     }
