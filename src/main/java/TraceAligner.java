@@ -552,7 +552,7 @@ public final class TraceAligner {
             lastMarking = NONE;
             codes[0] = net.codeOf(net.firstTokens);
             size = 1;
-            for (int marking = 0; marking < size; marking++) {
+            for (int marking = 0; marking < MAX_MARKINGS && marking < size; marking++) {
                 if (!followAll(marking)) {
                     size = NONE;
                     return;
@@ -561,7 +561,7 @@ public final class TraceAligner {
             lastMarking = numberOf(net.codeOf(net.lastTokens));
         }
 
-        /** Fires each transition that can; answers false when there are too many markings. */
+        /** Fires each transition that can fire; answers false when there are too many markings. */
         boolean followAll(int marking) {
             enabledSets[marking] = 0;
             for (int transition = 0; transition < net.transitionCount; transition++) {

@@ -241,6 +241,38 @@ public final class AlignmentsTest {
         due("ring without label costs: kind", 1, () -> x.move(0, 0, 0));
     }
 
+    private static void testTwoHundredMarkings() {
+        TraceAligner x = new TraceAligner();
+        int[] first = {2, 3, 3, 3, 1};
+        int[] inputs = {8, 16, 6, 1};
+        int[] outputs = {17, 0, 0, 0};
+        for (int p = 0; p < 5; p++) {
+            x.addPlace();
+            x.setTokens(p, first[p], false);
+            x.setTokens(p, p == 0 ? 0 : first[p], true);
+        }
+        for (int t = 0; t < 4; t++) {
+            x.addTransition(t);
+            for (int p = 0; p < 5; p++) {
+                x.link(t, p, true, (inputs[t] >> p & 1) == 1);
+                x.link(t, p, false, (outputs[t] >> p & 1) == 1);
+            }
+        }
+        due("200 markings", 200, () -> x.markings());
+        // The last marking comes when transition 3 fires twice.
+        trace(x, 3, 3);
+        trace(x, 3, 3, 3, 3, 3, 3, 3, 3);
+        trace(x, 5, 5, 5, 5, 5, 5, 5, 5);
+        trace(x, 0, 3);
+        due("200 markings: as the model", 0, () -> x.cost(0));
+        due("200 markings: 6 too many", 6, () -> x.cost(1));
+        due("200 markings: the first ones fire", 0, () -> x.move(1, 1, 0));
+        due("200 markings: the others are passed", 1, () -> x.move(1, 2, 0));
+        due("200 markings: nothing fits", 10, () -> x.cost(2));
+        due("200 markings: worst", 10, () -> x.worst(2));
+        due("200 markings: one fits", 2, () -> x.cost(3));
+    }
+
     private static void testNoAlignment() {
         TraceAligner x = row();
         trace(x, 0, 1);
@@ -362,6 +394,7 @@ public final class AlignmentsTest {
         testSilentIsNeverBoth();
         testLongTrace();
         testModelMovesToReachEachLabel();
+        testTwoHundredMarkings();
         testNoAlignment();
         testNoNet();
         testWrongArguments();
