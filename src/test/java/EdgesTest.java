@@ -539,7 +539,6 @@ public final class EdgesTest {
     private static final int[] LONG_FIRST = {0, 3, 2, 2, 2, 0};
     private static final int[] LONG_INPUTS = {54, 25, 5, 16, 3, 40, 35, 10, 44, 0};
     private static final int[] LONG_OUTPUTS = {59, 2, 50, 11, 1, 46, 2, 28, 22, 62};
-    private static final int LONG_MOVES = 413;
 
     private static TraceAligner longWay() {
         TraceAligner x = net(LONG_FIRST, new int[] {-1, -1, -1, -1, -1, -1, -1, -1, -1, 0}, LONG_INPUTS, LONG_OUTPUTS);
@@ -1373,7 +1372,7 @@ public final class EdgesTest {
     }
 
     private static void testManyMoves() {
-        int size = LONG_MOVES;
+        int size = 413;
         due("the model's own number", size, () -> leastMovesOfLongWay());
         int both = 0;
         // A new object for each part, since one alone would have more than 512 calls.
@@ -1629,7 +1628,8 @@ public final class EdgesTest {
         add(numbers, 0, 0, 0, 0, 0, 0, 0, 1);
         add(numbers, costOfLabel0, 1, 1, 1, 1, 7);
         add(numbers, 8, 8);
-        add(numbers, 99, 8, 0, 1, 2, 3, 4, 5, 0, 3, 1, 0, 0, 1, 5, 2, 2, 1, 5, 3, 3, 0, 1, 2, 4, 1, 4, 5, 0, 6, 2, 3, 2);
+        add(numbers, 99, 8, 0, 1, 2, 3, 4, 5, 0, 3);
+        add(numbers, 1, 0, 0, 1, 5, 2, 2, 1, 5, 3, 3, 0, 1, 2, 4, 1, 4, 5, 0, 6, 2, 3, 2);
         add(numbers, 8);
         add(numbers, costs);
         return numbers;
@@ -1671,13 +1671,15 @@ public final class EdgesTest {
     private static void testDigestWithoutAlignment() {
         TraceAligner x = withoutAlignment();
         List<Integer> numbers = new ArrayList<>();
-        add(numbers, 3, 2, 0, 1, 1, 2, 1, 1, 2, 4, 1, 0, 0, 0, 0, 3, 1, 1, 1, 1, 1, 1, 0, 2, 3, 2, 0, 1, 1, 0, 3, -1, -1);
+        add(numbers, 3, 2, 0, 1, 1, 2, 1, 1, 2, 4, 1, 0, 0, 0, 0, 3);
+        add(numbers, 1, 1, 1, 1, 1, 1, 0, 2, 3, 2, 0, 1, 1, 0, 3, -1, -1);
         due("two costs of -1", fold(numbers), () -> x.digest());
     }
 
     private static void testDigestOfNothing() {
         due("a new object", 181L, () -> {
-            // Taken back number by number, from the last one; all but these eight are 0.
+            // Taken back number by number, from the last one: a marking, no traces, an empty buffer, six
+            // labels that cost 1, no transitions and no places.
             long d = new TraceAligner().digest();
             for (int x : new int[] {1, 0, 0, 1, 1, 1, 1, 1, 1, 0, 0}) {
                 if ((d - x) % 31 != 0) {
